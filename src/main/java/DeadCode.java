@@ -187,7 +187,6 @@ public final class DeadCode {
         int dropped = 0;
         for (int m = 0; m < MEMBERS; m++) {
             dropped += program[m].drop();
-            second[m].drop();
             roots[m] = false;
         }
         hasTrial = false;
@@ -255,7 +254,7 @@ public final class DeadCode {
 
     /** The instructions of one member. */
     private static final class Code {
-        private final int[] cells = new int[PLACES * WIDTH];
+        final int[] cells = new int[PLACES * WIDTH];
         private int count;
 
         int count() {
@@ -558,7 +557,11 @@ public final class DeadCode {
             for (int f = 0; f < FIELDS; f++) {
                 ofFields[f] = 0;
             }
-            for (int m = nextToVisit(), visits = 0; m != NONE && visits < MEMBERS; m = nextToVisit(), visits++) {
+            for (int visits = 0; visits < MEMBERS; visits++) {
+                int m = nextToVisit();
+                if (m == NONE) {
+                    return;
+                }
                 visited[m] = true;
                 facts.findValues(program[m]);
                 noteReached(program[m], facts);

@@ -19,18 +19,23 @@ public final class PromiseTest {
         promise6RunKinds();
         promise6RunEndings();
         promise6RunRefused();
+        promise6RunAnew();
         promise7Told();
         promise8Said();
         promise9Marks();
         promise10Known();
         promise10KnownWays();
         promise11Read();
+        promise11ReadOrSet();
         promise12Used();
         promise13Field();
         promise14Doubled();
+        promise14NamedFirst();
         promise15Size();
         promise16Part();
         promise17Clear();
+        fullMembers();
+        extremeNumbers();
         checks.end("PromiseTest");
     }
 
@@ -396,6 +401,33 @@ public final class PromiseTest {
         due("none was done", code.told(1), 0);
     }
 
+    private static void promise6RunAnew() {
+        DeadCode code = new DeadCode();
+        put(code, 0, CALL, 0, 1, 0);
+        put(code, 0, CALL, 0, 1, 0);
+        put(code, 1, SAY, 2, 0, 0);
+        put(code, 1, SAY, 3, 0, 0);
+        put(code, 1, SET, 2, 8, 0);
+        put(code, 1, SET, 3, 9, 0);
+        for (int i = 0; i < 2; i++) {
+            dueRun(code, 0, 1, 1, 0, 0);
+            for (int said = 0; said < 4; said++) {
+                due("2 and 3 are 0 in each that is called", code.said(said), 0);
+            }
+        }
+        put(code, 2, SAY, 0, 0, 0);
+        put(code, 2, STORE, 0, 1, 0);
+        put(code, 2, CALL, 2, 3, 0);
+        put(code, 3, CHECK, 2, 0, 0);
+        put(code, 3, SAY, 1, 0, 0);
+        put(code, 4, LOAD, 0, 1, 0);
+        put(code, 4, GIVE, 0, 0, 0);
+        dueRun(code, 2, 7, 7, 2, 0);
+        dueRun(code, 4, 7, 7, 0, 0);
+        due("the one that failed leaves nothing behind", code.told(1), 2);
+        due("nor anything said", code.told(2), 0);
+    }
+
     private static void promise7Told() {
         DeadCode code = new DeadCode();
         for (int f = 0; f < 4; f++) {
@@ -639,6 +671,35 @@ public final class PromiseTest {
         dueRead(stops, 0, 1, 0, 0, 0, 0);
     }
 
+    private static void promise11ReadOrSet() {
+        int[][] setting = {{SET, 2, 3, 0}, {MOVE, 2, 0, 0}, {ADD, 2, 0, 1}, {TIMES, 2, 0, 1}, {DIV, 2, 0, 1},
+            {LOAD, 2, 3, 0}, {CALL, 2, 3, 0}};
+        for (int[] one : setting) {
+            DeadCode code = new DeadCode();
+            put(code, SAY, 0, 0, 0);
+            put(code, one[0], one[1], one[2], one[3]);
+            put(code, SAY, 2, 0, 0);
+            due("set ahead of being read by kind " + one[0], code.read(0, 0, 2), 0);
+            due("read behind kind " + one[0], code.read(0, 1, 2), 1);
+        }
+        int[][] reading = {{MOVE, 0, 2, 0}, {MOVE, 2, 2, 0}, {ADD, 2, 2, 0}, {ADD, 2, 0, 2}, {TIMES, 0, 2, 0},
+            {TIMES, 0, 0, 2}, {DIV, 2, 2, 0}, {DIV, 0, 0, 2}, {IF, 2, 0, 9}, {IF, 0, 2, 9}, {STORE, 2, 0, 0},
+            {GIVE, 2, 0, 0}, {CHECK, 2, 0, 0}, {SAY, 2, 0, 0}};
+        for (int[] one : reading) {
+            DeadCode code = new DeadCode();
+            put(code, SAY, 0, 0, 0);
+            put(code, one[0], one[1], one[2], one[3]);
+            due("read by kind " + one[0], code.read(0, 0, 2), 1);
+            due("3 is not", code.read(0, 0, 3), 0);
+        }
+        DeadCode code = new DeadCode();
+        put(code, 0, SAY, 0, 0, 0);
+        put(code, 0, SAY, 2, 0, 0);
+        put(code, 1, GO, 0, 0, 0);
+        due("read in member 0", code.read(0, 0, 2), 1);
+        due("not read in the loop of member 1", code.read(1, 0, 2), 0);
+    }
+
     private static void promise12Used() {
         DeadCode code = new DeadCode();
         put(code, 5, CALL, 0, 3, 0);
@@ -686,6 +747,16 @@ public final class PromiseTest {
         due("field 3", code.field(3), 3);
         code.root(2, false);
         due("field 3 without its root", code.field(3), 0);
+        code.root(0, false);
+        due("field 0 without its root", code.field(0), 0);
+        DeadCode chain = new DeadCode();
+        for (int m = 0; m < 7; m++) {
+            put(chain, m, CALL, 0, m + 1, 0);
+        }
+        put(chain, 7, STORE, 0, 2, 0);
+        chain.root(0, true);
+        due("all are used, one through another", chain.used(7), 1);
+        due("the field of the last one", chain.field(2), 2);
         due("field 4", code.field(4), UNKNOWN);
         due("field -1", code.field(-1), UNKNOWN);
     }
@@ -724,7 +795,28 @@ public final class PromiseTest {
         dueApart("0 and 1 are not renamed", SAY, new int[] {0, 0, 0}, new int[] {1, 0, 0}, 1);
         dueApart("2 and 3 are", SAY, new int[] {2, 0, 0}, new int[] {3, 0, 0}, 0);
         dueApart("one register, and two", MOVE, new int[] {2, 2, 0}, new int[] {2, 3, 0}, 1);
+        dueApart("the first is named as c", ADD, new int[] {0, 1, 2}, new int[] {0, 1, 3}, 0);
+        dueApart("the first is named as b", MOVE, new int[] {0, 2, 0}, new int[] {0, 3, 0}, 0);
         dueApart("what it has not", SAY, new int[] {2, 1, 1}, new int[] {2, 0, 9}, 0);
+    }
+
+    private static void promise14NamedFirst() {
+        DeadCode code = new DeadCode();
+        put(code, 0, SET, 0, 3, 0);
+        put(code, 0, GO, 3, 0, 0);
+        put(code, 0, SAY, 2, 0, 0);
+        put(code, 1, SET, 0, 3, 0);
+        put(code, 1, GO, 3, 0, 0);
+        put(code, 1, SAY, 3, 0, 0);
+        due("numbers and places name no register", code.doubled(1), 0);
+        put(code, 2, SAY, 2, 0, 0);
+        put(code, 2, SAY, 3, 0, 0);
+        put(code, 3, SAY, 3, 0, 0);
+        put(code, 3, SAY, 3, 0, 0);
+        put(code, 4, SAY, 3, 0, 0);
+        put(code, 4, SAY, 2, 0, 0);
+        due("the other one is the other one", code.doubled(3), 3);
+        due("both are renamed", code.doubled(4), 2);
     }
 
     private static void dueApart(String what, int kind, int[] one, int[] other, int want) {
@@ -804,5 +896,70 @@ public final class PromiseTest {
         due("nothing said behind a clear", code.said(0), 0);
         due("put behind a clear", code.put(0, SAY, 0, 0, 0), 0);
         due("trial behind a clear", code.trial(), 1);
+    }
+
+    private static void fullMembers() {
+        DeadCode code = new DeadCode();
+        for (int m = 0; m < 8; m++) {
+            for (int place = 0; place < 24; place++) {
+                put(code, m, place == 23 ? IF : ADD, 2 + place % 2, 3 - place % 2, place == 23 ? 24 : 0);
+            }
+            code.root(m, true);
+        }
+        due("doubled when full", code.doubled(7), 0);
+        due("known when full", code.known(7, 23, 3), ANY);
+        due("read when full", code.read(7, 22, 2), 1);
+        due("marks when full", code.marks(7, 23), 1);
+        due("used when full", code.used(7), 1);
+        due("trial when full", code.trial(), 0);
+        due("run when full", code.run(1, 7, 1, 1), 0);
+        due("all were done", code.told(1), 24);
+        for (int m = 0; m < 8; m++) {
+            code.cut(m);
+            for (int place = 0; place < 24; place++) {
+                put(code, m, ADD, 2 + place % 2, 3 - place % 2, 0);
+            }
+        }
+        due("each round takes one more", code.trial(), 192);
+        due("none stays", code.size(1, 7), 0);
+        due("clear when full", code.clear(), 192);
+        for (int place = 0; place < 48; place++) {
+            put(code, place % 2, SAY, 0, 0, 0);
+        }
+        due("doubled when full, without 2 and 3", code.doubled(1), 0);
+    }
+
+    /** None of these calls has an answer but UNKNOWN or OUTSIDE, and none may throw. */
+    private static void extremeNumbers() {
+        DeadCode code = new DeadCode();
+        put(code, SAY, 0, 0, 0);
+        code.trial();
+        for (int far : new int[] {MIN, MIN + 1, -1, 8, 25, 1 << 30, MAX - 1, MAX}) {
+            due("put to " + far, code.put(far, SET, 0, 0, 0), UNKNOWN);
+            due("cut of " + far, code.cut(far), UNKNOWN);
+            due("root of " + far, code.root(far, true), UNKNOWN);
+            due("run of " + far, code.run(0, far, far, far), UNKNOWN);
+            due("run in " + far, code.run(far, 0, far, far), OUTSIDE);
+            due("told of " + far, code.told(far), OUTSIDE);
+            due("said of " + far, code.said(far), 0);
+            due("marks of " + far, code.marks(far, 0), UNKNOWN);
+            due("marks at " + far, code.marks(0, far), UNKNOWN);
+            due("known of " + far, code.known(far, 0, 0), UNKNOWN);
+            due("known at " + far, code.known(0, far, 0), UNKNOWN);
+            due("known of register " + far, code.known(0, 0, far), UNKNOWN);
+            due("read of " + far, code.read(far, 0, 0), UNKNOWN);
+            due("read at " + far, code.read(0, far, 0), UNKNOWN);
+            due("read of register " + far, code.read(0, 0, far), UNKNOWN);
+            due("used of " + far, code.used(far), UNKNOWN);
+            due("field " + far, code.field(far), UNKNOWN);
+            due("doubled of " + far, code.doubled(far), UNKNOWN);
+            due("size of " + far, code.size(1, far), UNKNOWN);
+            due("size in " + far, code.size(far, 0), OUTSIDE);
+            due("part of " + far, code.part(1, far, 0, 0), UNKNOWN);
+            due("part in " + far, code.part(far, 0, 0, 0), OUTSIDE);
+            due("part at " + far, code.part(0, 0, far, 0), UNKNOWN);
+            due("part what " + far, code.part(0, 0, 0, far), OUTSIDE);
+        }
+        due("nothing has changed", code.clear(), 1);
     }
 }
