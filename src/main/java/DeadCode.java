@@ -254,7 +254,7 @@ public final class DeadCode {
 
     /** The instructions of one member. */
     private static final class Code {
-        final int[] cells = new int[PLACES * WIDTH];
+        private final int[] cells = new int[PLACES * WIDTH];
         private int count;
 
         int count() {
