@@ -328,6 +328,10 @@ public final class KnownBoundaryTest extends Bench {
         dueRead("the way back reads", loop, 0, 0, 0, 1, 0);
         dueRead("the way back reads", loop, 2, 0, 0, 1, 0);
         dueRead("the way back sets 3 first", loop, 3, 0, 0, 1, 0);
+        DeadCode around = code(row(SAY, 0), row(SAY, 1), row(GO, 0));
+        for (int place = 0; place < 3; place++) {
+            dueRead("all that a loop reads is read behind each of it", around, place, 1, 1, 0, 0);
+        }
         dueRead("GO to itself", code(row(GO, 0), row(SAY, 0)), 0, 0, 0, 0, 0);
         dueRead("IF to itself", code(row(IF, 0, 1, 0)), 0, 1, 1, 0, 0);
         dueRead("SET in a loop that none leaves", code(row(SET, 2, 1), row(GO, 0)), 0, 0, 0, 0, 0);
@@ -514,6 +518,16 @@ public final class KnownBoundaryTest extends Bench {
         dueField("only 6 is", code, 0, 0, 3, 0);
         code.cut(6);
         dueField("6 is empty", code, 0, 0, 0, 0);
+        DeadCode eight = new DeadCode();
+        for (int m = 0; m < 8; m++) {
+            add(eight, m, row(m % 2 == 0 ? LOAD : STORE, 2, m / 2), row(CALL, 2, m < 7 ? m + 1 : 0));
+        }
+        for (int m = 0; m < 8; m++) {
+            eight.root(m, true);
+            dueField("all 8 in a ring from " + m, eight, 3, 3, 3, 3);
+            eight.root(m, false);
+        }
+        dueField("a ring without a ROOT", eight, 0, 0, 0, 0);
     }
 
     private static void doubledByCount() {

@@ -123,7 +123,7 @@ public final class RefusedTest extends Bench {
             all.add(code -> code.doubled(m));
             all.add(code -> code.size(0, m));
             all.add(code -> code.size(1, m));
-            for (int place : new int[] {0, 1, 2, 3, 4, 5, 6, 22, 23}) {
+            for (int place = 0; place < 24; place++) {
                 addQuestionsOf(all, m, place);
             }
         }
@@ -143,9 +143,10 @@ public final class RefusedTest extends Bench {
             int part = n;
             all.add(code -> code.part(0, m, place, part));
             all.add(code -> code.part(1, m, place, part));
+            int r = n;
+            all.add(code -> code.known(m, place, r));
+            all.add(code -> code.read(m, place, r));
         }
-        all.add(code -> code.known(m, place, 2));
-        all.add(code -> code.read(m, place, 2));
     }
 
     /** What is refused whatever has come ahead of it. */
