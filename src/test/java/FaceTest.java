@@ -86,5 +86,36 @@ public final class FaceTest {
                 + "|->|::").matcher(code);
         checks.holds("no word that is ruled out", !words.find());
         checks.holds("plain letters alone", text.chars().allMatch(letter -> letter < 128));
+        objectsMade(code);
+        lengths(code);
+    }
+
+    /** Rows are made with the object that holds them; what calls make would add up over a run. */
+    private static void objectsMade(String code) {
+        int inConstructor = 0;
+        for (String line : code.split("\n")) {
+            if (line.contains("new ") && !line.contains("private final")) {
+                inConstructor++;
+            }
+        }
+        checks.due("objects made elsewhere than with a field: program and second", inConstructor, 2);
+    }
+
+    /** A method begins four or eight spaces in and ends at the brace below its first letter. */
+    private static void lengths(String code) {
+        String begin = "";
+        int lines = 0;
+        for (String line : code.split("\n")) {
+            Matcher head = Pattern.compile("^( {4}| {8})(?!if |for |switch )[\\w\\[\\] ]+\\((.*)\\) \\{$").matcher(line);
+            if (head.matches()) {
+                begin = head.group(1);
+                lines = 0;
+                checks.holds("at most seven parameters: " + line, head.group(2).split(",").length <= 7);
+            }
+            lines++;
+            if (line.equals(begin + "}")) {
+                checks.holds("at most sixty lines, up to: " + line + " " + lines, lines <= 60);
+            }
+        }
     }
 }
