@@ -104,17 +104,19 @@ public final class FaceTest {
     /** A method begins four or eight spaces in and ends at the brace below its first letter. */
     private static void lengths(String code) {
         String begin = "";
+        String name = "";
         int lines = 0;
         for (String line : code.split("\n")) {
-            Matcher head = Pattern.compile("^( {4}| {8})(?!if |for |switch )[\\w\\[\\] ]+\\((.*)\\) \\{$").matcher(line);
+            Matcher head = Pattern.compile("^( {4}| {8})(?! |if |for |switch )[\\w\\[\\] ]+\\((.*)\\) \\{$").matcher(line);
             if (head.matches()) {
                 begin = head.group(1);
+                name = line;
                 lines = 0;
                 checks.holds("at most seven parameters: " + line, head.group(2).split(",").length <= 7);
             }
             lines++;
             if (line.equals(begin + "}")) {
-                checks.holds("at most sixty lines, up to: " + line + " " + lines, lines <= 60);
+                checks.holds("at most sixty lines: " + name, lines <= 60);
             }
         }
     }

@@ -1,18 +1,25 @@
+import java.util.ArrayList;
+import java.util.List;
 import java.util.Random;
 
-/** Many programs by a fixed seed: the class and the model answer alike, and a trial does what its program does. */
+/**
+ * Many programs by a fixed seed: the class and the model answer alike, and a trial does what its program does.
+ * An object is used for 512 calls, so that a whole program is asked about by means of several copies.
+ */
 public final class ModelTest {
     private static final Checks checks = new Checks();
     private static final int[] NUMBERS = {0, 0, 1, 1, -1, 2, 3, 5, 7, Integer.MAX_VALUE, Integer.MIN_VALUE, 1 << 16};
 
+    private static final int MOST_CALLS = 512;
+
     private final Random random;
-    private DeadCode code;
-    private Model model;
+    private final Model model = new Model();
+    private final List<int[]> puts = new ArrayList<>();
+    private final List<Integer> roots = new ArrayList<>();
+    private DeadCode code = new DeadCode();
 
     private ModelTest(long seed) {
         random = new Random(seed);
-        code = new DeadCode();
-        model = new Model();
     }
 
     public static void main(String[] args) {
@@ -26,12 +33,29 @@ public final class ModelTest {
     }
 
     private void mixedCalls() {
-        for (int i = 0; i < 512; i++) {
-            oneCall();
+        for (int left = MOST_CALLS; left > 0;) {
+            left -= left > 12 && random.nextInt(12) == 0 ? aRun() : oneCall();
         }
     }
 
-    private void oneCall() {
+    /** A run and some of what is told of it: how many calls these are. */
+    private int aRun() {
+        int which = random.nextInt(8) == 0 ? random.nextInt(4) - 1 : random.nextInt(2);
+        int m = member();
+        int x = number();
+        int y = number();
+        checks.due("run " + which + " " + m, code.run(which, m, x, y), model.run(which, m, x, y));
+        for (int what = 0; what < 7; what++) {
+            checks.due("told " + what, code.told(what), model.told(what));
+        }
+        for (int i = 0; i < 4; i++) {
+            int nth = random.nextInt(random.nextBoolean() ? 4 : 64) - 1;
+            checks.due("said " + nth, code.said(nth), model.said(nth));
+        }
+        return 12;
+    }
+
+    private int oneCall() {
         int m = member();
         int place = random.nextInt(26) - 1;
         int r = random.nextInt(6) - 1;
@@ -40,8 +64,7 @@ public final class ModelTest {
             case 0: checks.due("cut " + m, code.cut(m), model.cut(m)); break;
             case 1: case 2: case 3: rootOf(m, random.nextInt(3) != 0); break;
             case 4: case 5: checks.due("trial", code.trial(), model.trial()); break;
-            case 6: case 7: case 8: runOf(which, m, number(), number()); break;
-            case 9: checks.due("told " + place, code.told(place), model.told(place)); break;
+            case 6: checks.due("told " + place, code.told(place), model.told(place)); break;
             case 10: checks.due("marks " + m + " " + place, code.marks(m, place), model.marks(m, place)); break;
             case 11: case 12: knownOf(m, place, r); break;
             case 13: case 14: readOf(m, place, r); break;
@@ -53,10 +76,13 @@ public final class ModelTest {
             case 20:
                 if (random.nextInt(12) == 0) {
                     checks.due("clear", code.clear(), model.clear());
+                    break;
                 }
+                putAny(m);
                 break;
             default: putAny(m); break;
         }
+        return 1;
     }
 
     /** Makes a program, then asks every question there is about it. */
@@ -72,24 +98,45 @@ public final class ModelTest {
             }
         }
         for (int m = 0; m < 8; m++) {
+            copy();
             askAll(m);
         }
+        copy();
         for (int f = 0; f < 4; f++) {
             checks.due("field " + f, code.field(f), model.field(f));
         }
         checks.due("trial", code.trial(), model.trial());
         for (int m = 0; m < 8; m++) {
-            checks.due("size " + m, code.size(1, m), model.size(1, m));
-            for (int place = -1; place < 25; place++) {
-                for (int what = 0; what < 4; what++) {
-                    partOf(1, m, place, what);
-                }
+            askAllOfTrial(m);
+        }
+    }
+
+    /** The program once more in a new object: 200 calls at most. */
+    private void copy() {
+        code = new DeadCode();
+        for (int[] one : puts) {
+            code.put(one[0], one[1], one[2], one[3], one[4]);
+        }
+        for (int m : roots) {
+            code.root(m, true);
+        }
+    }
+
+    private void askAllOfTrial(int m) {
+        copy();
+        code.trial();
+        checks.due("size " + m, code.size(1, m), model.size(1, m));
+        for (int place = -1; place < 25; place++) {
+            for (int what = 0; what < 4; what++) {
+                partOf(1, m, place, what);
             }
-            if (code.used(m) == 1) {
-                trialDoesTheSame(m, number(), number());
-                trialDoesTheSame(m, number(), number());
-            }
-            runOf(1, m, number(), number());
+        }
+        runOf(1, m, number(), number());
+        copy();
+        code.trial();
+        if (code.used(m) == 1) {
+            trialDoesTheSame(m, number(), number());
+            trialDoesTheSame(m, number(), number());
         }
     }
 
@@ -135,6 +182,9 @@ public final class ModelTest {
     }
 
     private void rootOf(int m, boolean on) {
+        if (on) {
+            roots.add(m);
+        }
         checks.due("root " + m + " " + on, code.root(m, on), model.root(m, on));
     }
 
@@ -162,6 +212,7 @@ public final class ModelTest {
     }
 
     private void put(int m, int kind, int a, int b, int c) {
+        puts.add(new int[] {m, kind, a, b, c});
         checks.due("put " + m + " " + kind + " " + a + " " + b + " " + c,
                 code.put(m, kind, a, b, c), model.put(m, kind, a, b, c));
     }

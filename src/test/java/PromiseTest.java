@@ -914,19 +914,23 @@ public final class PromiseTest {
         due("trial when full", code.trial(), 0);
         due("run when full", code.run(1, 7, 1, 1), 0);
         due("all were done", code.told(1), 24);
+
+        DeadCode chains = new DeadCode();
         for (int m = 0; m < 8; m++) {
-            code.cut(m);
             for (int place = 0; place < 24; place++) {
-                put(code, m, ADD, 2 + place % 2, 3 - place % 2, 0);
+                put(chains, m, ADD, 2 + place % 2, 3 - place % 2, 0);
             }
+            chains.root(m, true);
         }
-        due("each round takes one more", code.trial(), 192);
-        due("none stays", code.size(1, 7), 0);
-        due("clear when full", code.clear(), 192);
+        due("each round takes one more", chains.trial(), 192);
+        due("none stays", chains.size(1, 7), 0);
+        due("clear when full", chains.clear(), 192);
+
+        DeadCode plain = new DeadCode();
         for (int place = 0; place < 48; place++) {
-            put(code, place % 2, SAY, 0, 0, 0);
+            put(plain, place % 2, SAY, 0, 0, 0);
         }
-        due("doubled when full, without 2 and 3", code.doubled(1), 0);
+        due("doubled when full, without 2 and 3", plain.doubled(1), 0);
     }
 
     /** None of these calls has an answer but UNKNOWN or OUTSIDE, and none may throw. */
